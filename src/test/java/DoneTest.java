@@ -7,6 +7,7 @@ public final class DoneTest {
         tops();
         changesLabels();
         undoes();
+        undoesAllOfSix();
         forgetsOldSteps();
         tellsNow();
         Due.ends();
@@ -51,6 +52,11 @@ public final class DoneTest {
         drops.labels(0, 1);
         Due.is("its own LABEL again, no TEA", drops.pours(4), 1);
         Due.is("EARNED", drops.now(2), 6 + 7 + 8 + 9);
+        Due.is("one drop by a wrong LABEL", isWell("d9 0;d9 0;x0 1;a5 1 1;"), 0);
+        Due.is("one drop by its own", isWell("d9 0;d9 0;a5 1 1;"), 1);
+        drops = Due.told("d9 0;a5 0 1;");
+        drops.tops(0, 1);
+        Due.is("one drop of TEA", drops.pours(0), 0);
         drops = Due.told("d2 0;d2 0;a5 0 9;a7 1 2 0 0;a3 0 1;");
         drops.tops(0, 7);
         Due.is("TEA poured away is a BLUNDER", drops.pours(0), 0);
@@ -65,6 +71,10 @@ public final class DoneTest {
         drops.pours(2);
         Due.is("TEA becomes LEVEL", drops.decanter(0, 2), 6);
         Due.is("BLUNDERS of three", drops.now(3), 3);
+    }
+
+    private static int isWell(String text) {
+        return Due.told(text).pours(0);
     }
 
     private static void months() {
@@ -165,6 +175,39 @@ public final class DoneTest {
         Due.is("DONE", drops.now(1), 0);
         Due.is("undo() of none", drops.undo(), KingDrops.STATE);
         Due.is("what was TOLD stays", drops.count(2), 2);
+    }
+
+    private static void undoesAllOfSix() {
+        KingDrops drops = Due.told("d1 1;d2 1;d3 1;d4 1;d5 1;d6 1;x0 1;x1 2;x2 3;x3 4;x4 5;a5 0 1;a6 1 1;a7;a8 2 1;");
+        for (int d = 0; d < 6; d++) {
+            drops.tops(d, 20 + d);
+        }
+        drops.pours(3);
+        drops.pours(1);
+        drops.pours(2);
+        drops.month();
+        drops.labels(2, 5);
+        Due.is("LABEL of 5", drops.decanter(5, 3), 3);
+        drops.undo();
+        int[] teas = {19, 21, 22, 23, 24, 25};
+        areNow(drops, 1, 14, 7, 2, 1, 148);
+        areLevels(drops, 19, 21, 24, 26, 28, 30);
+        for (int d = 0; d < 6; d++) {
+            Due.is("LABEL of " + d, drops.decanter(d, 3), (d + 1) % 6);
+            Due.is("TEA of " + d, drops.decanter(d, 2), teas[d]);
+        }
+        drops.undo();
+        areNow(drops, 0, 14, 7, 2, 1, 154);
+        drops.undo();
+        areNow(drops, 0, 10, 0, 2, 5, 154);
+        drops.undo();
+        areNow(drops, 0, 8, 0, 1, 7, 155);
+    }
+
+    private static void areNow(KingDrops drops, int... due) {
+        for (int what = 0; what < due.length; what++) {
+            Due.is("now(" + what + ")", drops.now(what), due[what]);
+        }
     }
 
     private static void forgetsOldSteps() {

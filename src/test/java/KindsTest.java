@@ -90,8 +90,9 @@ public final class KindsTest {
         for (int i = 0; i < 10; i++) {
             drops.undo();
         }
-        drops.tops(0, 1);
-        drops.tops(0, 1);
+        for (int i = 0; i < 11; i++) {
+            drops.tops(0, 1);
+        }
         Due.is("back(0)", drops.back(0), 12);
         Due.is("back() is no step", drops.count(3), 10);
         for (int left = 9; left >= 0; left--) {

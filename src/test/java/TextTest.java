@@ -143,6 +143,14 @@ public final class TextTest {
         isFault("q;", 0);
         isFault("D0 0;", 0);
         isFault("xa;", 0);
+        isFault("dz", 0);
+        isFault("az", 0);
+        isFault("za", 0);
+        isFault("d1 1zz", 4);
+        isFault("d1 1;`", 5);
+        isFault("d1 1;{", 5);
+        isFault("d1/1;", 2);
+        isFault("d1:1;", 2);
         isFault("d0 0;;", 5);
         isFault("d0 0;b", 5);
         isFault("d00 0;", 1);
@@ -207,14 +215,16 @@ public final class TextTest {
     private static void readsAnew() {
         KingDrops drops = Due.told("d10 1;d20 2;a30 0 5;a1 0 1;x0 1;");
         drops.labels(0, 1);
+        drops.pours(1);
         drops.tops(0, 3);
         drops.pours(0);
-        drops.pours(1);
         drops.month();
         drops.tells(0, 1);
         drops.keep(0);
         drops.keep(1);
         drops.mark(5, 0);
+        Due.is("EARNED ahead", drops.now(2), 1);
+        Due.is("BLUNDERS ahead", drops.now(3), 1);
         Due.is("a new text", Due.reads(drops, "d7 0;a9;d8 3;"), 3);
         int[] counts = {2, 1, 0, 0, 0};
         for (int what = 0; what < 5; what++) {
@@ -236,6 +246,17 @@ public final class TextTest {
         Due.is("back(0) anew", drops.back(0), KingDrops.STATE);
         Due.is("back(1) anew", drops.back(1), KingDrops.STATE);
         Due.is("trace() stays", drops.trace(), 100001);
+        Due.is("a third text", Due.reads(drops, "d1 0;d1 0;a3;a4;"), 4);
+        for (int a = 0; a < 2; a++) {
+            Due.is("act(" + a + ", 1) of the third", drops.act(a, 1), 0);
+            Due.is("LABEL of the third", drops.decanter(a, 3), a);
+        }
+        Due.is("a FAULT in a fourth", Due.reads(drops, "d1 0;d2 0;x0 1;a1 0 9 1 9;q"), -36);
+        drops.clear();
+        Due.is("a fifth text", Due.reads(drops, "d1 0;d1 0;a3;"), 3);
+        Due.is("act(0, 1) of the fifth", drops.act(0, 1), 0);
+        Due.is("needs(0, 1) of the fifth", drops.needs(0, 1), 0);
+        Due.is("LABEL of the fifth", drops.decanter(0, 3), 0);
         Due.is("an empty text", drops.sideboard(), 0);
         Due.is("no decanters", drops.count(0), 0);
         Due.is("no acts", drops.count(1), 0);
