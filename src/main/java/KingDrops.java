@@ -251,11 +251,10 @@ public final class KingDrops {
             return what == 0 ? 0 : 1;
         }
         // In least terms for one DECANTER is in least terms for all: a power brings no new divisor.
-        int divisor = divisorWithTen(CRACK_PARTS - x);
-        int whole = (what == 0 ? CRACK_PARTS - x : CRACK_PARTS) / divisor;
+        int ofOne = inLeastTerms(what == 0 ? CRACK_PARTS - x : CRACK_PARTS, x);
         int product = 1;
         for (int i = Integer.bitCount(board.qualitiesNeeded(a)); i > 0; i--) {
-            product *= whole;
+            product *= ofOne;
         }
         return product;
     }
@@ -505,13 +504,14 @@ public final class KingDrops {
         return Math.abs(difference);
     }
 
-    private static int divisorWithTen(int number) {
+    /** A number of the fraction by which one DECANTER is whole. */
+    private static int inLeastTerms(int number, int x) {
         for (int divisor = CRACK_PARTS; divisor > 1; divisor--) {
-            if (number % divisor == 0 && CRACK_PARTS % divisor == 0) {
-                return divisor;
+            if (CRACK_PARTS % divisor == 0 && x % divisor == 0) {
+                return number / divisor;
             }
         }
-        return 1;
+        return number;
     }
 
     // ---- what was told
