@@ -112,7 +112,7 @@ public final class EdgeBoardTest {
 
     /** These are more than the 512 calls of which the document tells: the class keeps to its sentences beyond them. */
     private static void passes(KingDrops drops, int months) {
-        while (drops.now(0) < months) {
+        for (int month = drops.now(0); month < months; month++) {
             drops.month();
         }
     }

@@ -218,7 +218,7 @@ public final class EdgeDoneTest {
 
     /** These are more than the 512 calls of which the document tells: the class keeps to its sentences beyond them. */
     private static void passes(KingDrops drops, int months) {
-        while (drops.now(0) < months) {
+        for (int month = drops.now(0); month < months; month++) {
             drops.month();
         }
     }
@@ -340,13 +340,20 @@ public final class EdgeDoneTest {
 
     private static void undoesEach() {
         Due.holds(12, "UNDONE: the latest POURED, MONTH, TOPPED up, CHANGED");
+        // Ahead of it one ACT went WELL and one did not, so that EARNED and BLUNDERS are more than 0.
         Twins.Calls told = x -> {
-            Due.reads(x, "d9 5;d7 1;d5 0;x0 1;a5 0 2 2 1;a6 1 9;");
+            Due.reads(x, "d9 5;d7 1;d5 0;d9 0;x0 1;a5 0 2 2 1;a6 1 9;a8 3 1;a9 3 2;");
+            x.pours(2);
             x.tops(0, 6);
+            x.pours(1);
             x.keep(0);
         };
         Twins.leave("pours(0) and undo()", told, x -> {
-            x.pours(0);
+            Due.is("a BLUNDER", x.pours(0), 0);
+            x.undo();
+        });
+        Twins.leave("pours(3) and undo()", told, x -> {
+            Due.is("WELL", x.pours(3), 1);
             x.undo();
         });
         Twins.leave("month() and undo()", told, x -> {
@@ -363,13 +370,13 @@ public final class EdgeDoneTest {
         });
         Twins.leave("all of them and undo() of all", told, x -> {
             x.labels(2, 0);
+            x.pours(3);
             x.month();
             x.pours(0);
             x.tops(1, 20);
-            Due.is("undo()", x.undo(), 4);
-            Due.is("undo()", x.undo(), 3);
-            Due.is("undo()", x.undo(), 2);
-            Due.is("undo()", x.undo(), 1);
+            for (int left = 7; left >= 3; left--) {
+                Due.is("undo()", x.undo(), left);
+            }
         });
     }
 

@@ -155,7 +155,7 @@ public final class EdgeKindsTest {
         for (int image = 0; image < 2; image++) {
             int kept = image;
             Twins.Calls told = x -> {
-                Due.reads(x, "d9 5;d7 1;d5 0;a5 0 2 2 1;a6 1 2;a7 0 1;");
+                Due.reads(x, "d9 5;d7 1;d5 0;a5 0 2 2 1;a6 1 2;a7 0 1;a9 1 1;");
                 x.pours(1);
                 x.tops(0, 6);
                 x.labels(0, 2);
@@ -167,16 +167,18 @@ public final class EdgeKindsTest {
                 x.back(kept);
             });
             Twins.leave("all sorts and back()", told, x -> {
+                Due.is("WELL", x.pours(3), 1);
                 x.tops(1, 9);
-                x.pours(0);
+                Due.is("a BLUNDER", x.pours(0), 0);
                 x.labels(1, 2);
                 x.month();
                 x.back(kept);
             });
             Twins.leave("undo() and back()", told, x -> {
-                x.undo();
-                x.undo();
-                x.undo();
+                for (int n = 0; n < 4; n++) {
+                    x.undo();
+                }
+                Due.is("EARNED is undone", x.now(2), 0);
                 x.back(kept);
             });
             Twins.leave("back() at once", told, x -> x.back(kept));

@@ -111,7 +111,7 @@ public final class EdgeRefusedTest {
         // These are more than the 512 calls of which the document tells: the class keeps to its sentences beyond them.
         Twins.leaves("month()", x -> {
             begun(x);
-            while (x.now(0) < 999) {
+            for (int month = x.now(0); month < 999; month++) {
                 x.month();
             }
         }, KingDrops::month, KingDrops.STATE);

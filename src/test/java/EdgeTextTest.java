@@ -48,6 +48,7 @@ public final class EdgeTextTest {
         Due.reads(drops, "d9 1;d7 0;x0 1;a8 0 2;a5;");
         drops.keep(0);
         drops.pours(0);
+        drops.pours(1);
         drops.month();
         drops.tells(0, 0);
         drops.keep(1);
@@ -452,7 +453,10 @@ public final class EdgeTextTest {
         Due.holds(4, "as told (what is not told as at first), nothing DONE, TOLD or to be UNDONE, IMAGES are gone; THE TRACE stays.");
         KingDrops drops = new KingDrops();
         begun(drops);
-        Due.is("BLUNDERS, DONE and steps ahead, together", drops.now(3) + drops.now(1) + drops.count(3), 1 + 1 + 4);
+        Due.is("DONE ahead", drops.now(1), 3);
+        Due.is("EARNED ahead", drops.now(2), 5);
+        Due.is("BLUNDERS ahead", drops.now(3), 1);
+        Due.is("steps ahead", drops.count(3), 5);
         Due.is("sideboard()", Due.reads(drops, "d3 1;a5 0 1;"), 2);
         int[] now = {0, 0, 0, 0, 1, 3};
         int[] counts = {1, 1, 0, 0, 0};
@@ -469,5 +473,11 @@ public final class EdgeTextTest {
         Due.is("back(1)", drops.back(1), KingDrops.STATE);
         Due.is("forget()", drops.forget(), 0);
         Due.is("trace()", drops.trace(), 1011);
+        for (int again = 0; again < 3; again++) {
+            Due.is("sideboard() again", Due.reads(drops, "d3 1;d3 1;a5;"), 3);
+            Due.is("drops that are not told", drops.needs(0, 0), 0);
+            Due.is("QUALITIES that are not told", drops.act(0, 1), 0);
+            Due.is("LABEL that is not told", drops.decanter(0, 3), 0);
+        }
     }
 }
