@@ -9,8 +9,10 @@ public final class EdgeBoardTest {
         spans();
         spansBeyond();
         ownLabels();
+        ownQualities();
         asksActs();
         asksOfActs();
+        lastsWhereNotDone();
         lastsNone();
         lastsMost();
         lastsTheLeast();
@@ -118,7 +120,7 @@ public final class EdgeBoardTest {
     }
 
     private static void ownLabels() {
-        Due.holds(5, "no two alike (its own at first)");
+        Due.holds(5, "LABELS: each DECANTER has the LABEL of a QUALITY, no two alike (its own at first).");
         KingDrops drops = Due.told(SIX);
         for (int d = 0; d < 6; d++) {
             Due.is("LABEL of " + d, drops.decanter(d, 3), d);
@@ -130,6 +132,19 @@ public final class EdgeBoardTest {
                 hung |= 1 << drops.decanter(e, 3);
             }
             Due.is("all LABELS hang", hung, 63);
+        }
+    }
+
+    /** With all LABELS right, an ACT that NEEDS one QUALITY is POURED from the DECANTER of that number alone. */
+    private static void ownQualities() {
+        Due.holds(5, "each holds the QUALITY of its own number; LEVEL (0 .. 40 drops), AIR (0 .. 5 drops a month).");
+        for (int q = 0; q < 6; q++) {
+            KingDrops drops = Due.told("d9 1;d9 1;d9 1;d9 1;d9 1;d9 1;a5 " + q + " 9;");
+            Due.is("WELL by QUALITY " + q, drops.pours(0), 1);
+            for (int d = 0; d < 6; d++) {
+                Due.is("LEVEL of " + d, drops.decanter(d, 0), d == q ? 0 : 9);
+                Due.is("AIR of " + d, drops.decanter(d, 1), 1);
+            }
         }
     }
 
@@ -174,6 +189,22 @@ public final class EdgeBoardTest {
         Due.is("it can be then", drops.now(4), due == KingDrops.NONE ? 0 : 1);
         drops.month();
         Due.is("it can't be behind one MONTH more", drops.now(4), due == 60 ? 1 : 0);
+    }
+
+    private static void lastsWhereNotDone() {
+        Due.holds(6, "LAST of an ACT not DONE: for how many MONTHS more");
+        KingDrops drops = Due.told("d20 2;a5 0 4;a6 0 6;");
+        Due.is("LAST of the first", drops.act(0, 3), 8);
+        Due.is("LAST of the second", drops.act(1, 3), 7);
+        drops.pours(0);
+        Due.is("DONE", drops.act(0, 3), KingDrops.NONE);
+        Due.is("the other one, by what is left", drops.act(1, 3), 5);
+        drops.pours(1);
+        drops.undo();
+        drops.undo();
+        Due.is("undone", drops.act(0, 3), 8);
+        drops.tops(0, 20);
+        Due.is("TEA is of the LEVEL", drops.act(0, 3), 18);
     }
 
     private static void lastsNone() {

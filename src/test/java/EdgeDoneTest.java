@@ -6,6 +6,7 @@ public final class EdgeDoneTest {
         poursActs();
         poursOnce();
         poursWhereEnough();
+        isDoneThen();
         poursByLabel();
         needsItsOwnLabel();
         needsNoTea();
@@ -20,6 +21,7 @@ public final class EdgeDoneTest {
         topsUpToForty();
         topsDecanters();
         changesLabels();
+        changesTwoLabelsAlone();
         countsOwnLabels();
         undoesNone();
         undoesEach();
@@ -92,6 +94,20 @@ public final class EdgeDoneTest {
         KingDrops all = Due.told(SIX + "a5 0 9 1 9 2 9 3 9 4 9 5 9;");
         Due.is("all are enough", all.pours(0), 1);
         areLevels(all, 0, 0, 0, 0, 0, 0);
+    }
+
+    private static void isDoneThen() {
+        Due.holds(8, "(LEVELS must be so much); it is DONE.");
+        for (int a = 0; a < 5; a++) {
+            KingDrops drops = Due.told("d9 0;d9 0;d9 0;x1 2;a1 0 1;a2 1 1;a3;a4 0 1 1 1;a5 2 9;");
+            drops.pours(a);
+            Due.is("WELL or not, " + a + " is DONE", drops.now(1), 1 << a);
+            for (int b = 0; b < 5; b++) {
+                Due.is("whether " + b + " is DONE", drops.act(b, 2), b == a ? 1 : 0);
+            }
+            drops.undo();
+            Due.is("none is DONE", drops.now(1), 0);
+        }
     }
 
     private static void poursByLabel() {
@@ -308,6 +324,28 @@ public final class EdgeDoneTest {
         }
         Twins.leaves("labels(0, 0) of one alone", x -> Due.reads(x, "d1 1;"), x -> x.labels(0, 0), KingDrops.BAD);
         Twins.leaves("labels(0, 1) of one alone", x -> Due.reads(x, "d1 1;"), x -> x.labels(0, 1), KingDrops.BAD);
+    }
+
+    private static void changesTwoLabelsAlone() {
+        Due.holds(11, "CHANGED: two DECANTERS' LABELS.");
+        for (int d = 0; d < 6; d++) {
+            for (int e = 0; e < 6; e++) {
+                if (d == e) {
+                    continue;
+                }
+                KingDrops drops = Due.told("d9 0;d10 1;d11 2;d12 3;d13 4;d14 5;a5 0 9;");
+                drops.tops(d, 3);
+                drops.labels(d, e);
+                for (int i = 0; i < 6; i++) {
+                    Due.is("LABEL of " + i, drops.decanter(i, 3), i == d ? e : i == e ? d : i);
+                    Due.is("LEVEL of " + i, drops.decanter(i, 0), 9 + i + (i == d ? 3 : 0));
+                    Due.is("AIR of " + i, drops.decanter(i, 1), i);
+                    Due.is("TEA of " + i, drops.decanter(i, 2), i == d ? 3 : 0);
+                }
+                Due.is("nothing is DONE", drops.now(1), 0);
+                Due.is("no MONTH goes by", drops.now(0), 0);
+            }
+        }
     }
 
     private static void countsOwnLabels() {

@@ -12,6 +12,8 @@ public final class EdgeKindsTest {
         marksPardons();
         marksHunts();
         marksBreaths();
+        asksUpOnce();
+        marksBelowNought();
         marksChangeTraceAlone();
         keepsImages();
         keepsNow();
@@ -20,6 +22,7 @@ public final class EdgeKindsTest {
         goesBack();
         goesBackToNone();
         imagesAreGone();
+        tracesEachObject();
         tracesAll();
         tracesNothingRefused();
         Due.ends();
@@ -34,7 +37,7 @@ public final class EdgeKindsTest {
     }
 
     private static void asksKinds() {
-        Due.holds(21, "0 ACT; 1 TREATY, 2 WAR, 5 BREATH (each under ACT); 3 PARDON (under TREATY); 4 HUNT (under WAR)");
+        Due.holds(21, "KINDS of ACTS are over one another: 0 ACT; 1 TREATY, 2 WAR, 5 BREATH (each under ACT); 3 PARDON (under TREATY); 4 HUNT (under WAR)");
         KingDrops drops = Due.told("a7;");
         Due.is("mark(0, 0)", drops.mark(0, 0), 7);
         Due.is("mark(5, 0)", drops.mark(5, 0), 7);
@@ -120,6 +123,34 @@ public final class EdgeKindsTest {
         isMark(drops, 5, 0, 7, 100001);
     }
 
+    private static void asksUpOnce() {
+        Due.holds(21, "MARK of an ACT as if of a KIND (numbers in brackets come to THE TRACE (0 at first; of all calls ever, together) "
+            + "as often as mark() asks that body; \"up\" is what the KIND above does, asked once)");
+        // Each figure of what comes to THE TRACE is how often one body was asked: ACT, TREATY, WAR, PARDON, HUNT, BREATH.
+        KingDrops drops = Due.told("d9 0;d9 0;x0 1;a50 0 3 1 2;a20 0 1;");
+        drops.pours(1);
+        drops.month();
+        isMark(drops, 0, 0, 50, 1);
+        isMark(drops, 1, 0, 50 + 2, 11);
+        isMark(drops, 2, 0, 50 - 5, 101);
+        isMark(drops, 3, 0, (50 + 2) * 2, 1011);
+        isMark(drops, 4, 0, 50 - 5 + 1, 10101);
+        isMark(drops, 5, 0, 50 + 1, 100001);
+        Due.is("together", drops.trace(), 111226);
+    }
+
+    private static void marksBelowNought() {
+        Due.holds(21, "The constants: `NO = -1000000`: What none is, where a number may be below 0.");
+        KingDrops drops = Due.told("d9 0;d9 0;d9 0;d9 0;d9 0;d9 0;a0 0 1;a0 0 2;a0 0 3;a0 0 9;a0 0 9 1 9 2 9 3 9 4 9 5 9;");
+        isMark(drops, 2, 0, KingDrops.BAD, 101);
+        isMark(drops, 2, 1, KingDrops.STATE, 101);
+        isMark(drops, 2, 2, KingDrops.FULL, 101);
+        isMark(drops, 2, 3, KingDrops.NONE, 101);
+        isMark(drops, 4, 4, -54, 10101);
+        isMark(drops, 2, 5, KingDrops.NO, 0);
+        isMark(drops, 6, 4, -1000000, 0);
+    }
+
     private static void marksChangeTraceAlone() {
         Due.holds(21, "as often as mark() asks that body");
         for (int kind = 0; kind < 6; kind++) {
@@ -151,7 +182,7 @@ public final class EdgeKindsTest {
     }
 
     private static void keepsNow() {
-        Due.holds(22, "keep NOW (LEVELS, TEA, LABELS, MONTHS, what is DONE, EARNED, BLUNDERS, what may be UNDONE)");
+        Due.holds(22, "IMAGES 0, 1 keep NOW (LEVELS, TEA, LABELS, MONTHS, what is DONE, EARNED, BLUNDERS, what may be UNDONE)");
         for (int image = 0; image < 2; image++) {
             int kept = image;
             Twins.Calls told = x -> {
@@ -280,6 +311,17 @@ public final class EdgeKindsTest {
         drops.keep(1);
         Due.is("back(0) still", drops.back(0), KingDrops.STATE);
         Due.is("back(1) anew", drops.back(1), 0);
+    }
+
+    private static void tracesEachObject() {
+        Due.holds(25, "THE TRACE.");
+        KingDrops drops = Due.told("a7;");
+        KingDrops other = Due.told("a7;");
+        drops.mark(5, 0);
+        other.mark(0, 0);
+        Due.is("trace()", drops.trace(), 100001);
+        Due.is("trace() again", drops.trace(), 100001);
+        Due.is("trace() of the other object", other.trace(), 1);
     }
 
     private static void tracesAll() {

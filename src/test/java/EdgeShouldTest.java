@@ -13,10 +13,12 @@ public final class EdgeShouldTest {
         rightsNone();
         rightsFewest();
         rightsTheLeastTwo();
+        rightsInAllWays();
         asksShare();
         sharesByFirst();
         sharesMostAlike();
         sharesLeastBits();
+        sharesInAllWays();
         asksOdds();
         oddsByX();
         oddsOfAll();
@@ -156,6 +158,36 @@ public final class EdgeShouldTest {
         isRight(SIX + "x0 3;x3 5;x5 2;", 3, 2);
     }
 
+    /** All ways in which two to six LABELS can hang, each beside a search through all changes. */
+    private static void rightsInAllWays() {
+        Due.holds(15, "; the two of the first that sets one right at least (10 times the lesser DECANTER and the other one, the least such)");
+        for (int n = 2; n <= 6; n++) {
+            int[] due = Changes.fewest(n);
+            for (int[] way : Changes.ways(n)) {
+                KingDrops drops = Due.told("d1 0;".repeat(n));
+                hangs(drops, way);
+                int changes = due[Changes.number(way)];
+                int two = Changes.leastThatSetsOne(way);
+                Due.is("right(0) of " + Changes.number(way), drops.right(0), changes);
+                Due.is("right(1) of " + Changes.number(way), drops.right(1), changes == 0 ? KingDrops.NONE : two);
+                if (changes > 0) {
+                    drops.labels(two / 10, two % 10);
+                    Due.is("it is the first of the fewest", drops.right(0), changes - 1);
+                }
+            }
+        }
+    }
+
+    private static void hangs(KingDrops drops, int[] way) {
+        for (int d = 0; d < way.length; d++) {
+            for (int e = d + 1; e < way.length; e++) {
+                if (drops.decanter(e, 3) == way[d]) {
+                    drops.labels(d, e);
+                }
+            }
+        }
+    }
+
     private static void isShare(String text, int which, int difference) {
         isShare(text, Due.told(text), which, difference);
     }
@@ -207,6 +239,30 @@ public final class EdgeShouldTest {
         isShare("d9 0;d9 0;d9 0;", 1, 9);
         isShare("d2 0;d4 0;d3 0;d3 0;", 3, 0);
         isShare("d2 0;d3 0;d3 0;d4 0;", 9, 0);
+    }
+
+    /** Many LEVELS of four DECANTERS, each beside all eight ways to share them. */
+    private static void sharesInAllWays() {
+        Due.holds(16, "SHARE: of all ways to give each DECANTER to one of two heirs");
+        int[] some = {0, 1, 2, 5, 9, 40};
+        for (int i = 0; i < 6 * 6 * 6 * 6; i++) {
+            int[] levels = {some[i % 6], some[i / 6 % 6], some[i / 36 % 6], some[i / 216]};
+            int which = 0;
+            int least = Integer.MAX_VALUE;
+            for (int bits = 15; bits > 0; bits -= 2) {
+                int first = 0;
+                int second = 0;
+                for (int d = 0; d < 4; d++) {
+                    first += (bits & 1 << d) != 0 ? levels[d] : 0;
+                    second += (bits & 1 << d) != 0 ? 0 : levels[d];
+                }
+                if (Math.abs(first - second) <= least) {
+                    least = Math.abs(first - second);
+                    which = bits;
+                }
+            }
+            isShare("d" + levels[0] + " 0;d" + levels[1] + " 0;d" + levels[2] + " 0;d" + levels[3] + " 0;", which, least);
+        }
     }
 
     private static void areOdds(KingDrops drops, int a, int x, int upper, int lower) {

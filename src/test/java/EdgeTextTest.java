@@ -5,6 +5,7 @@ public final class EdgeTextTest {
     public static void main(String[] args) {
         typesBytes();
         typesTillFull();
+        readsByteByByte();
         clears();
         blanks();
         noBlanks();
@@ -17,6 +18,7 @@ public final class EdgeTextTest {
         worths();
         drops();
         dropsNotTold();
+        numbersInOrder();
         qualitiesAhead();
         sixTwos();
         toldAgain();
@@ -92,6 +94,27 @@ public final class EdgeTextTest {
         Twins.leaves("type() of one more", x -> Due.types(x, " ".repeat(145) + "d1 1;"), x -> x.type(';'), KingDrops.FULL);
         isRead(" ".repeat(145) + "d1 1;", 1);
         isRead("d1 1;" + " ".repeat(145), 1);
+    }
+
+    /** Bytes come one by one, with other calls and FAULTS between them: only what stands there counts. */
+    private static void readsByteByByte() {
+        Due.holds(4, "They are a text (150 bytes at most), read byte by byte");
+        KingDrops drops = new KingDrops();
+        String text = "d12 3;a45 0 6;";
+        int[] faults = {1, 2, 3, 4, 5, 0, 7, 8, 9, 10, 11, 12, 13, 0};
+        for (int i = 0; i < text.length(); i++) {
+            Due.is("type(" + text.charAt(i) + ")", drops.type(text.charAt(i)), i + 1);
+            drops.month();
+            drops.undo();
+            if (faults[i] > 0) {
+                Due.is("sideboard() of " + (i + 1) + " bytes", drops.sideboard(), -10 - faults[i]);
+            }
+        }
+        Due.is("sideboard() of all", drops.sideboard(), 2);
+        Due.is("LEVEL of two bytes", drops.decanter(0, 0), 12);
+        Due.is("AIR of one byte", drops.decanter(0, 1), 3);
+        Due.is("WORTH of two bytes", drops.act(0, 0), 45);
+        Due.is("drops of one byte", drops.needs(0, 0), 6);
     }
 
     private static void clears() {
@@ -181,7 +204,7 @@ public final class EdgeTextTest {
     }
 
     private static void fiveActs() {
-        Due.holds(4, "(5 of them at most)");
+        Due.holds(4, "ACTS 0 .. (5 of them at most)");
         isRead("a1;a2;a3;a4;a5;", 5);
         Due.is("ACTS", Due.told("a1;a2;a3;a4;a5;").count(1), 5);
         Due.is("the WORTH of the last", Due.told("a1;a2;a3;a4;a5;").act(4, 0), 5);
@@ -200,7 +223,7 @@ public final class EdgeTextTest {
     }
 
     private static void drops() {
-        Due.holds(4, "drops (0 .. 9) of each QUALITY");
+        Due.holds(4, "WORTH (0 .. 99), NEEDS: drops (0 .. 9) of each QUALITY");
         KingDrops least = Due.told("d9 0;a5 0 0;");
         Due.is("least drops", least.needs(0, 0), 0);
         Due.is("it NEEDS none", least.act(0, 1), 0);
@@ -221,6 +244,21 @@ public final class EdgeTextTest {
         }
         Due.is("QUALITIES", drops.act(0, 1), 59);
         Due.is("no QUALITIES", drops.act(1, 1), 0);
+    }
+
+    private static void numbersInOrder() {
+        Due.holds(4, ": d L A (a decanter) ; a W and twos of NUMBERS Q N (an act: N drops of the QUALITY Q");
+        KingDrops drops = Due.told("d3 4;d5 2;a1 0 5;a0 1 3 0 2;");
+        Due.is("L of the first", drops.decanter(0, 0), 3);
+        Due.is("A of the first", drops.decanter(0, 1), 4);
+        Due.is("L of the second", drops.decanter(1, 0), 5);
+        Due.is("A of the second", drops.decanter(1, 1), 2);
+        Due.is("W of the first", drops.act(0, 0), 1);
+        Due.is("W of the second", drops.act(1, 0), 0);
+        Due.is("N of Q = 0", drops.needs(0, 0), 5);
+        Due.is("N of no Q", drops.needs(0, 1), 0);
+        Due.is("N of Q = 1, told first", drops.needs(1, 1), 3);
+        Due.is("N of Q = 0, told last", drops.needs(1, 0), 2);
     }
 
     private static void qualitiesAhead() {
@@ -373,14 +411,14 @@ public final class EdgeTextTest {
         isFault("a4294967297;", 1);
         isFault("a18446744073709551617;", 1);
         isFault("a" + "9".repeat(149), 1);
-        Due.holds(4, "a NUMBER beyond what it may be");
+        Due.holds(4, "a NUMBER beyond what it may be, too);");
         isFault("d41 0;", 1);
         isFault("d40 6;", 4);
         isFault("d40 5;a1 0 10;", 11);
     }
 
     private static void numbersWithNought() {
-        Due.holds(4, "with a 0 ahead of others");
+        Due.holds(4, "a NUMBER above 99 or with a 0 ahead of others, that TOKEN's;");
         isRead("a0;", 1);
         isRead("a10;", 1);
         isFault("a00;", 1);
@@ -420,7 +458,7 @@ public final class EdgeTextTest {
     }
 
     private static void readsWhole() {
-        Due.holds(4, "THE TEXT tells all, and is empty then: how many ITEMS.");
+        Due.holds(4, "THE TEXT tells all, and is empty then: how many ITEMS. -10 less FAULT: nothing changes (THE TEXT, too, stays).");
         KingDrops drops = new KingDrops();
         String text = "d1 1;".repeat(6) + "a1;".repeat(5) + "x0 1;".repeat(21);
         Due.is("bytes", text.length(), 150);
@@ -428,6 +466,9 @@ public final class EdgeTextTest {
         Due.is("bytes then", drops.count(4), 0);
         Due.is("clear() then", drops.clear(), 0);
         Due.is("LABEL by 21 exchanges", drops.decanter(0, 3), 1);
+        Due.is("a FAULT", Due.reads(drops, ";"), -10);
+        Due.is("it stays", drops.clear(), 1);
+        Due.is("and so does LABEL", drops.decanter(0, 3), 1);
         Due.is("sideboard() of the empty one", drops.sideboard(), 0);
     }
 
@@ -450,7 +491,8 @@ public final class EdgeTextTest {
     }
 
     private static void isReadAnew() {
-        Due.holds(4, "as told (what is not told as at first), nothing DONE, TOLD or to be UNDONE, IMAGES are gone; THE TRACE stays.");
+        Due.holds(4, "(Read anew: as told (what is not told as at first), nothing DONE, TOLD or to be UNDONE, IMAGES are gone; "
+            + "THE TRACE stays.)");
         KingDrops drops = new KingDrops();
         begun(drops);
         Due.is("DONE ahead", drops.now(1), 3);

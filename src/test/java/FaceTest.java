@@ -7,8 +7,11 @@ import java.lang.reflect.Modifier;
 import java.nio.file.Files;
 import java.nio.file.Path;
 import java.util.ArrayList;
+import java.util.Arrays;
 import java.util.Collections;
 import java.util.List;
+import java.util.Map;
+import java.util.TreeMap;
 import java.util.regex.Matcher;
 import java.util.regex.Pattern;
 
@@ -30,6 +33,8 @@ public final class FaceTest {
         hasItsConstants();
         hidesTheRest();
         keepsToItsWords();
+        staysSmall();
+        staysShallow();
         Due.ends();
     }
 
@@ -106,9 +111,8 @@ public final class FaceTest {
     }
 
     private static void keepsToItsWords() throws IOException {
-        String source = Files.readString(SOURCE);
-        isSo("signs 1 to 127 alone", source.chars().allMatch(c -> c > 0 && c < 128));
-        String code = source.replaceAll("(?s)/\\*.*?\\*/", "").replaceAll("//[^\n]*", "");
+        isSo("signs 1 to 127 alone", Files.readString(SOURCE).chars().allMatch(c -> c > 0 && c < 128));
+        String code = code();
         for (String word : NOT_IN_THE_LANGUAGE) {
             String pattern = Character.isLetter(word.charAt(0)) ? "\\b" + Pattern.quote(word) + "\\b" : Pattern.quote(word);
             isSo("no " + word, !Pattern.compile(pattern).matcher(code).find());
@@ -118,6 +122,60 @@ public final class FaceTest {
             int depth = depthAt(code, makes.start());
             isSo("made with the object, in no method: " + makes.group(), depth <= 2 && isInField(code, makes.start()));
         }
+    }
+
+    private static String code() throws IOException {
+        return Files.readString(SOURCE).replaceAll("(?s)/\\*.*?\\*/", "").replaceAll("//[^\n]*", "");
+    }
+
+    private static void staysSmall() throws IOException {
+        List<Class<?>> all = new ArrayList<>(List.of(KingDrops.class.getDeclaredClasses()));
+        all.add(KingDrops.class);
+        isSo("twelve classes at most", all.size() <= 12);
+        for (Class<?> one : all) {
+            long fields = Arrays.stream(one.getDeclaredFields()).filter(field -> !Modifier.isStatic(field.getModifiers())).count();
+            isSo(one + " has twenty fields at most", fields <= 20);
+        }
+        bodies(code()).forEach((name, body) -> isSo(name + " has sixty lines at most", body.lines().count() <= 60));
+        Matcher library = Pattern.compile("\\b([A-Z]\\w*)\\.(\\w+)\\(").matcher(code());
+        while (library.find()) {
+            String name = library.group(1) + "." + library.group(2);
+            isSo(name + " is in the language", List.of("Math.max", "Math.min", "Math.abs", "Integer.bitCount", "System.arraycopy").contains(name));
+        }
+    }
+
+    /** No method comes back to itself, and none goes deeper than eight. */
+    private static void staysShallow() throws IOException {
+        Map<String, String> bodies = bodies(code());
+        for (String name : bodies.keySet()) {
+            int depth = depth(name, bodies, 1);
+            isSo(name + " goes eight deep at most, not " + depth, depth <= 8);
+        }
+    }
+
+    private static int depth(String name, Map<String, String> bodies, int ahead) {
+        int deepest = ahead;
+        Matcher called = Pattern.compile("\\b(\\w+)\\(").matcher(bodies.get(name));
+        while (called.find() && deepest <= 8) {
+            if (bodies.containsKey(called.group(1))) {
+                deepest = Math.max(deepest, depth(called.group(1), bodies, ahead + 1));
+            }
+        }
+        return deepest;
+    }
+
+    /** By name what stands between each method's braces; no two methods of the file bear one name. */
+    private static Map<String, String> bodies(String code) {
+        Map<String, String> bodies = new TreeMap<>();
+        Matcher head = Pattern.compile("(?m)^ +(?:public|private)(?: static)? [\\w\\[\\]]+ (\\w+)\\([^)]*\\) \\{").matcher(code);
+        while (head.find()) {
+            int end = head.end();
+            for (int open = 1; open > 0 && end < code.length(); end++) {
+                open += code.charAt(end) == '{' ? 1 : code.charAt(end) == '}' ? -1 : 0;
+            }
+            isSo("one method is called " + head.group(1), bodies.put(head.group(1), code.substring(head.end(), end)) == null);
+        }
+        return bodies;
     }
 
     private static int depthAt(String code, int at) {
